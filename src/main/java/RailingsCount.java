@@ -904,7 +904,7 @@ public final class RailingsCount {
             length = Math.min(Math.min(Math.max(count, 0), tape.length), TAPE);
             next = 0;
             size = 0;
-            while (next < length) {
+            for (int i = 0; i < TAPE && next < length; i++) {
                 if (bytes[next] == 32 || bytes[next] == 10) {
                     next++;
                 } else {
