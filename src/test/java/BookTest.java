@@ -59,6 +59,13 @@ public final class BookTest {
         x.year(1);
         C.due("as now", x.whose(), 8);
         C.due("who rules is nothing to it", x.by(0) ? x.whose() : -9, 8);
+        RailingsCount y = new RailingsCount();
+        y.child(1, 1);
+        Check.read(y, "catches place - 20;");
+        y.said(0, 27, 7);
+        C.due("by the place", y.whose(), 1);
+        y.said(0, 28, 7);
+        C.due("both are asked", y.whose(), 0);
     }
 
     private static void numbers() {
@@ -93,6 +100,8 @@ public final class BookTest {
         C.due("none", x.thickest(), 0);
         x.paint(29, 1);
         C.due("29", x.thickest(), 29);
+        x.paint(1, 2);
+        C.due("1", x.thickest(), 1);
         x.paint(12, 3);
         x.paint(20, 3);
         C.due("the lowest", x.thickest(), 12);

@@ -179,8 +179,11 @@ public final class DeedTest {
         C.due("number among all clauses", x.played(1), 2);
         Check.read(x, "child 1 luck 1;".repeat(6));
         C.due("the eighth child", x.played(2), 5);
-        Check.read(x, "");
-        C.due("nothing to do", x.played(3), -1);
+        Check.read(x, "run 3 from 17;");
+        C.due("another runs", x.played(3), -1);
+        C.due("it was child 3", x.book(1, 1), 3);
+        C.due("from 17", x.book(1, 2), 17);
+        C.due("nothing to do", Check.read(new RailingsCount(), ""), 0);
     }
 
     private static void playedInLastYears() {
@@ -242,6 +245,10 @@ public final class DeedTest {
         C.due("caught at once", x.of(2, 2), 1);
         C.due("again", x.ages(22, 1), 0);
         C.due("it has a number", x.book(-1, 0), 1);
+        RailingsCount one = new RailingsCount();
+        one.child(1, 1);
+        one.ages(22, 1);
+        C.due("of the only one", one.book(0, 2), 21);
     }
 
     private static void undo() {
@@ -297,6 +304,7 @@ public final class DeedTest {
         C.due("a bar again", x.ofBar(3, 0), 1);
         C.due("told since", x.ofBar(4, 0), 0);
         C.due("told since", x.ofBar(7, 0), 2);
+        C.due("paint told since", x.ofBar(6, 1), 7);
         C.due("no paint by years", x.ofBar(0, 1), 0);
         C.due("children stay", x.about(0), 1);
         C.due("tellings stay", x.about(4), 1);

@@ -86,6 +86,7 @@ public final class OddsTest {
         RailingsCount sure = railing(5, "catches 10;");
         C.due("the lowest of many", sure.start(0, 1), 0);
         C.due("none", sure.start(0, 2), -1);
+        C.due("12, from the place that has just twelve", x.start(0, 12), 23);
         RailingsCount endless = new RailingsCount();
         endless.child(1, 1);
         C.due("none without a spike", endless.start(0, 0), -1);
@@ -122,6 +123,7 @@ public final class OddsTest {
         C.due("none from the last", x.which(0, 3, 0), 3);
         C.due("none from the spike", x.which(0, 4, 0), -1);
         C.due("one of two, from 2", x.which(0, 2, 1), 2);
+        C.due("12 of 13", railing(13, "").which(0, 0, 12), 0);
         C.due("n 13", x.which(0, 0, 13), -1);
         C.due("n -1", x.which(0, 0, -1), -1);
         C.due("from 30", x.which(0, 30, 0), -1);
@@ -217,6 +219,12 @@ public final class OddsTest {
         worthIs(x, 0, 99L * 282429536481L, 1000000000000L);
         Check.rule(x, "catches 0;");
         worthIs(x, 0, 99, 1);
+        x.value(12, 12);
+        worthIs(x, 0, 12, 1);
+        RailingsCount y = new RailingsCount();
+        y.child(1, 1);
+        Check.rule(y, "catches 0;");
+        worthIs(y, 0, 12, 1);
         x.value(12, 0);
         worthIs(x, 0, 11, 1);
     }
@@ -233,6 +241,9 @@ public final class OddsTest {
         C.due("-1", x.goesOn(0, 0, -1), -1);
         C.due("from 30", x.goesOn(0, 30, 0), -1);
         C.due("child 1", x.goesOn(1, 0, 0), -1);
+        RailingsCount three = railing(3, "");
+        three.value(0, 2);
+        C.due("2 for 2.187", three.goesOn(0, 0, 0), 1);
         RailingsCount one = railing(1, "");
         one.value(0, 9);
         one.value(1, 10);

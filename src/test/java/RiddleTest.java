@@ -58,6 +58,12 @@ public final class RiddleTest {
         x.tell(0, 12, 12);
         C.due("all are bars", x.could(0, 1), 4095);
         C.due("none is none", x.could(0, 2), 0);
+        x.tell(-1, 0, 0);
+        x.tell(3, 2, 2);
+        C.due("3 and 4", x.could(0, 1), 8 | 16);
+        C.due("all others may be", x.could(0, 0), 1024);
+        x.tell(-1, 0, 0);
+        x.tell(0, 12, 12);
         x.bar(0, 0);
         C.due("what is on the ring is not known", x.could(0, 0), 1);
     }
@@ -71,6 +77,8 @@ public final class RiddleTest {
         x.tell(0, 12, 0);
         C.due("one way", x.ask(0), -1);
         C.due("thirteen: seven or six", x.ask(1), 6);
+        // 79 ways of two bars at most: 9 places leave 7, 36 or 36, 4 leave 37 by none, 8 leave 40 by one
+        C.due("seventy-nine", x.ask(2), 9);
         x.tell(3, 2, 2);
         C.due("no way", x.ask(0), -1);
         C.due("3 or 4: the places ahead of 4", x.ask(1), 4);
@@ -85,6 +93,14 @@ public final class RiddleTest {
         // 0 and 6 .. 10 are bars, 1 .. 5 are none, 11 may be
         C.due("two ways", x.could(0, 0), 2);
         C.due("by 11 alone", x.ask(0), 12);
+        x.tell(-1, 0, 0);
+        x.tell(1, 11, 0);
+        C.due("by 0 alone", x.ask(0), 1);
+        x.tell(-1, 0, 0);
+        x.tell(0, 2, 1);
+        x.tell(2, 8, 0);
+        // one of 0 and 1, and 10, 11 freely: from 1 on eleven leave 3 at most, from 0 on none leaves fewer than 4
+        C.due("from 1 on", x.ask(0), 111);
     }
 
     private static void sings() {

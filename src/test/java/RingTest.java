@@ -79,6 +79,7 @@ public final class RingTest {
         C.due("by fifteens", barsAt(7, 22).least(), 7);
         C.due("two together", barsAt(3, 4, 9).least(), 3);
         C.due("round", barsAt(29, 0, 9).least(), 29);
+        C.due("from 1", barsAt(1).least(), 1);
         RailingsCount x = barsAt(3, 4, 5);
         x.bar(20, 0);
         C.due("the first weighs most", x.least(), 20);

@@ -82,6 +82,7 @@ public final class TellTest {
         C.due("children", x.about(0), 7);
         C.due("stride of the last", x.of(6, 0), 7);
         C.due("luck of the last", x.of(6, 1), 3);
+        C.due("the widest stride", new RailingsCount().child(9, 9), 0);
     }
 
     private static void feedAndEnd() {
@@ -143,6 +144,13 @@ public final class TellTest {
         faulty("Cut 1;", 1, 0);
         faulty("cuts 1;", 1, 0);
         faulty("cut", 1, 3);
+        for (String letter : new String[] {"a", "z", "A", "Z"}) {
+            faulty("cut" + letter + " 1;", 1, 0);
+        }
+        for (String other : new String[] {"@", "[", "`", "{", "_", ".", ":", "\0", "\u00ff", "\r"}) {
+            faulty("cut" + other + "1;", 1, 3);
+            faulty("cut 1" + other + ";", 1, 5);
+        }
         faulty("cut 1 ", 1, 6);
         faulty("cut ;", 1, 4);
         faulty("cut x;", 1, 4);
@@ -171,6 +179,12 @@ public final class TellTest {
         faulty("catches if 1 < = 2 then 1 else 2 end;", 1, 15);
         faulty("catches if not then 1 else 2 end;", 1, 15);
         faulty("catches not 1;", 1, 8);
+        faulty("catches if 1 then 2 else 3 end;", 1, 13);
+        faulty("catches if 1 + 2;", 1, 16);
+        faulty("catches if 1 of 2 then 2 else 3 end;", 1, 13);
+        faulty("catches round 1 2;", 1, 16);
+        faulty("catches 1 = 1;", 1, 10);
+        faulty("catches 1 end;", 1, 10);
         faulty("catches if 1 =< 2 then 1 else 2 end;", 1, 14);
         faulty("catches if 1<=2 then 1 else 2 end;", 0, -1);
         faulty("catches if 1>=2 or 1#2 and not not 1=1 then 1 else 2 end;", 0, -1);
@@ -189,6 +203,21 @@ public final class TellTest {
         faulty("run 6 from 29;", 0, -1);
         faulty("cut 29;add 29;", 0, -1);
         faulty("year 60;year 1;", 0, -1);
+        faulty("place 0 kind 0;", 0, -1);
+        faulty("paint 0 at 0;", 0, -1);
+        faulty("run 0 from 0;", 0, -1);
+        faulty("cut 0;add 0;", 0, -1);
+        faulty("place 30 kind 0;", 2, 6);
+        faulty("place 31 kind 0;", 2, 6);
+        faulty("place 0 kind 4;", 2, 13);
+        faulty("paint 10 at 0;", 2, 6);
+        faulty("paint 0 at 30;", 2, 11);
+        faulty("child 0 luck 0;", 2, 6);
+        faulty("child 10 luck 0;", 2, 6);
+        faulty("child 1 luck 10;", 2, 13);
+        faulty("run 7 from 0;", 2, 4);
+        faulty("run 0 from 30;", 2, 11);
+        faulty("cut 30;", 2, 4);
         faulty("year 0;", 2, 5);
         faulty("year 61;", 2, 5);
         faulty("run 7 from 30;", 2, 4);
@@ -239,6 +268,15 @@ public final class TellTest {
         faulty("paints ((((((((count))))))));", 5, 15);
         faulty("paints ((((((((1 (", 1, 17);
         faulty("cut 1; ! catches 10000;", 1, 7);
+        faulty(";".repeat(300), 1, 0);
+        faulty("catches 1" + "+".repeat(291), 1, 10);
+        faulty("catches 1" + "+1".repeat(145) + ";", 0, -1);
+        faulty("catches 1" + "-".repeat(8) + "1;".repeat(10), 1, 19);
+        faulty("catches " + "-".repeat(292), 3, 16);
+        faulty("cut 1;".repeat(23) + "a".repeat(162), 1, 138);
+        faulty("catches " + "1".repeat(292), 2, 8);
+        faulty("catches 1" + " ".repeat(290) + "<", 1, 299);
+        faulty("catches 1" + " ".repeat(290) + ";", 0, -1);
         faulty("catches 10000 !;", 2, 8);
     }
 
