@@ -1495,7 +1495,8 @@ public final class RailingsCount {
                 return false;
             }
             state.steps.keep(state.square);
-            return cutAt(state.square, at);
+            cutAt(state.square, at);
+            return true;
         }
 
         boolean addNow(int at) {
@@ -1503,7 +1504,8 @@ public final class RailingsCount {
                 return false;
             }
             state.steps.keep(state.square);
-            return addAt(state.square, at);
+            addAt(state.square, at);
+            return true;
         }
 
         /** So many of n YEARS as can pass do; answers how many CHILDREN came by a NUMBER. */
@@ -1583,21 +1585,17 @@ public final class RailingsCount {
             return count;
         }
 
-        private static boolean cutAt(Square square, int at) {
-            if (square.kinds[at] != BAR) {
-                return false;
+        private static void cutAt(Square square, int at) {
+            if (square.kinds[at] == BAR) {
+                square.kinds[at] = GAP;
             }
-            square.kinds[at] = GAP;
-            return true;
         }
 
-        private static boolean addAt(Square square, int at) {
-            if (square.kinds[at] != GAP) {
-                return false;
+        private static void addAt(Square square, int at) {
+            if (square.kinds[at] == GAP) {
+                square.kinds[at] = BAR;
+                square.paints[at] = 0;
             }
-            square.kinds[at] = BAR;
-            square.paints[at] = 0;
-            return true;
         }
 
         int passYear(Square square) {

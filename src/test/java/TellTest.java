@@ -196,6 +196,9 @@ public final class TellTest {
         faulty("catches 000000000009999;", 0, -1);
         faulty("catches 99999999999999999999999;", 2, 8);
         faulty("catches 4294967296;", 2, 8);
+        faulty("catches if 1<10000 then 1 else 1 end;", 2, 13);
+        faulty("catches if 1<2 then 10000 else 1 end;", 2, 20);
+        faulty("catches if 1<2 then 1 else 10000 end;", 2, 27);
         faulty("place 29 kind 3;", 0, -1);
         faulty("paint 9 at 29;", 0, -1);
         faulty("child 9 luck 9;", 0, -1);
