@@ -23,6 +23,18 @@ final class Check {
         due(what, got ? 1 : 0, want ? 1 : 0);
     }
 
+    void due(String what, String got, String want) {
+        due(got.equals(want) ? what : what + ": " + got + " for " + want, got.equals(want), true);
+    }
+
+    int right() {
+        return right;
+    }
+
+    int wrong() {
+        return wrong;
+    }
+
     /** Ends the test, with exit code 1 if an answer was wrong or there was none. */
     void finish() {
         System.out.println(name + ": " + right + " answers as due, " + wrong + " not");
