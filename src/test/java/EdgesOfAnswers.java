@@ -101,6 +101,8 @@ final class EdgesOfAnswers {
                 c.due("child " + child, x.which(child, 0, 2), -1);
             }
             c.due("child -1", x.which(-1, 0, 2), -1);
+            c.due("0 from the last bar", x.which(0, 2, 0), 2);
+            c.due("less than 0 from the last bar", x.which(0, 2, -1), -1);
             c.due("nothing is cut", x.is(2), 29);
         });
     }
@@ -118,6 +120,7 @@ final class EdgesOfAnswers {
             }
             x.bar(4, 3);
             c.due("none", x.nth(0, 5), -1);
+            c.due("the bar ahead of the first", Rings.gates(7).nth(0, 0), -1);
         });
     }
 
@@ -182,6 +185,11 @@ final class EdgesOfAnswers {
             }
             c.due("child -1", x.best(-1), -1);
             c.due("nobody", new RailingsCount().best(0), -1);
+            RailingsCount two = Rings.gates(5, 15);
+            two.bar(6, 3);
+            two.bar(16, 3);
+            Check.rule(two, "catches if place = 5 then 10 else 0 end;");
+            c.due("by the first bar all is lost", two.best(0), 7);
         });
     }
 

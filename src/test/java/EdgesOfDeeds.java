@@ -155,6 +155,14 @@ final class EdgesOfDeeds {
             x.feed(0, 0, 0, 0, 0);
             c.due("none", x.end(0), 0);
             c.due("has none", x.about(6), 0);
+            Check.tape(x, "cuts 30;");
+            x.end(3);
+            x.text();
+            c.due("a word ends with them", x.fault(1), 3);
+            Check.tape(x, "cut 30;");
+            x.end(5);
+            x.text();
+            c.due("a number ends with them", x.fault(1), 5);
         });
         e.edge("Promise 6", "NONE, and nothing is done, if it has not so many, or n is below 0.", c -> {
             RailingsCount x = new RailingsCount();

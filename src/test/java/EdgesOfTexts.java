@@ -67,6 +67,11 @@ final class EdgesOfTexts {
             fine(c, "", "cut 1;" + " ".repeat(294), " ".repeat(300), "catches 1" + "+1".repeat(145) + ";");
             fault(c, "cut 1;" + " ".repeat(293) + "!", 1, 299);
             fault(c, "cut 1" + " ".repeat(295), 1, 300);
+            fault(c, ";".repeat(300), 1, 0);
+            fault(c, "catches 1" + " ".repeat(290) + "<", 1, 299);
+            fault(c, "catches " + "9".repeat(292), 2, 8);
+            fault(c, "cut 1;" + "a".repeat(294), 1, 6);
+            fault(c, "catches 1" + "+1".repeat(145) + "+", 1, 300);
         });
         e.edge(WHERE, "TOKENS, blanks (32, 10) aside", c -> {
             fine(c, "\n cut\n \n1 ;\n", " ", "\n", "cut 1;add 1;");
@@ -113,6 +118,8 @@ final class EdgesOfTexts {
             fault(c, "catches if 1 <> 2 then 1 else 2 end;", 1, 14);
             fault(c, "catches if 1 == 2 then 1 else 2 end;", 1, 14);
             fault(c, "catches if 1 ## 2 then 1 else 2 end;", 1, 14);
+            fault(c, "catches if 1 ; 2 then 1 else 2 end;", 1, 13);
+            fault(c, "cut 1 <=", 1, 6);
             fault(c, "catches 1 ** 2;", 1, 11);
             fault(c, "catches 1 % 2;", 1, 10);
             fault(c, "cut 1;;", 1, 6);
@@ -280,6 +287,13 @@ final class EdgesOfTexts {
                     fault(c, "paints " + names[i] + ";", 5, 7);
                 }
             }
+            for (int p : new int[] {0, 29}) {
+                RailingsCount x = Rings.withChildren(1);
+                x.bar(p, 2);
+                x.paint(p, 5);
+                Check.rule(x, "catches kind + paint;");
+                c.due("kind and paint at " + p, x.catches(0, p, 1), 7);
+            }
             c.due("count: the first is 1", Rings.railing(5, "catches if count = 0 then 10 else 0 end;").run(0, 0), 5);
             c.due("count: it too", Rings.railing(5, "catches if count = 1 then 10 else 0 end;").run(0, 0), 1);
             c.due("count: the last", Rings.railing(5, "catches if count = 5 then 10 else 0 end;").run(0, 0), 5);
@@ -406,6 +420,12 @@ final class EdgesOfTexts {
             fault(c, "run 1 luck 2;", 1, 6);
             fault(c, "cut -1;", 1, 4);
             fault(c, "cut (1);", 1, 4);
+            fault(c, "cut ;", 1, 4);
+            fault(c, "place kind 2;", 1, 6);
+            fault(c, "place 3 kind ;", 1, 13);
+            fault(c, "paint at 4;", 1, 6);
+            fault(c, "child luck 2;", 1, 6);
+            fault(c, "run from 3;", 1, 4);
             fault(c, "year place;", 1, 5);
             fault(c, "kind 1;", 1, 0);
             fault(c, "if 1<2 then 1 else 2 end;", 1, 0);
@@ -491,6 +511,9 @@ final class EdgesOfTexts {
                 "catches if not not not not not not not 1<2 and not not not not not not not 1<2 then ((((((1)))))) else (1) end;",
                 "catches kinds 1 * ((((((((1))))))));", "catches --------1;paints --------1;",
                 "catches if 1<2 then 1 else 2 end + ((((((((1))))))));", "catches (1)+(1)+(1)+(1)+(1)+(1)+(1)+(1)+(1)+(1);");
+            RailingsCount x = new RailingsCount();
+            c.due("left open", Check.read(x, "catches ((((((((1"), -1);
+            c.due("nothing is open in the next", Check.read(x, "catches ((((((((1))))))));"), 0);
         });
         e.edge(WHERE, "round till its second is whole).", c -> {
             fine(c, "catches round (((((((1))))))) of (((((((1)))))));", "catches round 1 of 2 + ((((((((1))))))));");

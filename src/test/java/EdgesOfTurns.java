@@ -244,6 +244,12 @@ final class EdgesOfTurns {
             c.due("none", x.whose(), 0);
             x.year(2);
             c.due("as now", x.whose(), 4);
+            RailingsCount y = Rings.withChildren(1);
+            Check.read(y, "catches place - 20;");
+            y.said(0, 27, 7);
+            c.due("by the place", y.whose(), 1);
+            y.said(0, 28, 7);
+            c.due("by each place", y.whose(), 0);
         });
     }
 
@@ -272,6 +278,11 @@ final class EdgesOfTurns {
             c.due("9", x.greatest(), 3);
             x.run(2, 0);
             c.due("the lowest of 9", x.greatest(), 2);
+            RailingsCount seven = byLuck(1, 2, 3, 4, 5, 6, 7);
+            for (int i = 0; i < 7; i++) {
+                seven.run(i, 0);
+                c.due("of " + (i + 1), seven.greatest(), i);
+            }
         });
         e.edge(FOUR, "TWINS: how many pairs have like NUMBERS.", c -> {
             RailingsCount x = byLuck(4, 4, 4, 4, 4, 4, 4);
@@ -371,6 +382,9 @@ final class EdgesOfTurns {
             c.due("child", x.book(0, 1), 2);
             c.due("place", x.book(0, 2), 21);
             c.due("X, drawn by the run too", x.is(1), Rings.drawn(307, 1 + x.of(2, 2)));
+            RailingsCount one = Rings.withChildren(1);
+            one.ages(22, 1);
+            c.due("the only one", one.book(0, 2), 21);
         });
         e.edge(FIVE, "0, 1 CHILD", c -> {
             // x is odd at first, so that 0 comes behind another: 3, which does nothing here, as no gap is there
