@@ -249,6 +249,8 @@ final class EdgesOfComing {
             RailingsCount x = Rings.gates(7, 9);
             c.due("twice round", x.nth(8, 4), 7);
             c.due("no fifth", x.nth(8, 5), -1);
+            c.due("from a bar, twice round", x.nth(7, 3), 7);
+            c.due("from a bar, not a third time", x.nth(7, 5), -1);
             x.bar(8, 3);
             c.due("ahead of a spike", x.nth(0, 1), 7);
             c.due("behind it", x.nth(0, 2), -1);
