@@ -1,5 +1,8 @@
+import java.io.IOException;
 import java.lang.reflect.Method;
 import java.lang.reflect.Modifier;
+import java.nio.file.Files;
+import java.nio.file.Path;
 import java.util.ArrayList;
 import java.util.Comparator;
 import java.util.List;
@@ -22,11 +25,36 @@ public final class WildTest {
         }
         face.sort(Comparator.comparing(Method::getName));
         C.due("methods of the face", face.size(), 53);
+        likeTheDocument(face);
         C.due("public constants", RailingsCount.class.getFields().length, 1);
         for (int seed = 0; seed < 200; seed++) {
             wild(face, new Random(seed));
         }
         C.finish();
+    }
+
+    /** Each method as it stands in the document's public face, and none beside these. */
+    private static void likeTheDocument(List<Method> face) throws IOException {
+        Path document = Path.of("../shared/DOC.md");
+        if (!Files.exists(document)) {
+            System.out.println("WildTest: " + document + " is not here, so the face is not compared with it");
+            return;
+        }
+        List<String> lines = new ArrayList<>();
+        for (String line : Files.readString(document).split("```")[1].split("\n")) {
+            if (line.contains("(") && !line.contains(" RailingsCount(")) {
+                lines.add(line.replaceAll("(int|boolean) \\w+(?=[,)])", "$1").trim());
+            }
+        }
+        C.due("methods of the document", lines.size(), face.size());
+        for (Method m : face) {
+            List<String> types = new ArrayList<>();
+            for (Class<?> type : m.getParameterTypes()) {
+                types.add(type.getName());
+            }
+            String written = "public " + m.getReturnType() + " " + m.getName() + "(" + String.join(", ", types) + ");";
+            C.due(written, lines.contains(written) && !Modifier.isStatic(m.getModifiers()), true);
+        }
     }
 
     private static void wild(List<Method> face, Random random) throws Exception {
